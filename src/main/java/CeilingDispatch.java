@@ -1,3 +1,7 @@
+/**
+ * Tasks of fixed priorities on one processor that share things by ceilings.
+ * Every row is made in the constructor and used again: no later call makes an object but for what it throws.
+ */
 public final class CeilingDispatch {
     public static final int NONE = -1;
     public static final int RELEASED = 1, TAKEN = 2, GIVEN = 3, FINISHED = 4, RUNS = 5;

@@ -305,9 +305,15 @@ public final class DispatchTest {
     private static void spentWithWrongNumbers() {
         CeilingDispatch x = sealed();
         x.release(0);
+        x.take(0);
+        x.release(1);
         x.pass(5);
+        x.give(0);
+        x.pass(6);
+        Check.equal("work", x.spent(1, 0), 6);
+        Check.equal("delay", x.spent(1, 1), 5);
         for (int what : new int[] {-1, 2, Integer.MIN_VALUE, Integer.MAX_VALUE}) {
-            Check.equal("spent of another what", x.spent(0, what), 0);
+            Check.equal("spent of another what", x.spent(1, what), 0);
         }
         for (int task : new int[] {-1, 5, 8, Integer.MIN_VALUE, Integer.MAX_VALUE}) {
             Check.equal("spent of no task", x.spent(task, 0), 0);

@@ -26,7 +26,7 @@ public final class ModelTest {
 
     private boolean agrees(int run) {
         int setUp = below(60);
-        // Most runs are right in most of their numbers; some are wild, and seal late or never.
+        // Most runs are right in most of their numbers, else they would not get far; some are wild.
         int wild = run % 10 == 0 ? 50 : 8;
         for (int i = 0; i < CALLS; i++) {
             boolean same = i < setUp ? setUpCall(wild) : i == setUp ? seals() : laterCall(wild);
@@ -67,7 +67,7 @@ public final class ModelTest {
             return same(() -> done(() -> program.mayUse(task, thing, length)),
                     () -> done(() -> model.mayUse(task, thing, length)));
         }
-        return asks(wild);
+        return below(2) == 0 ? asks(wild) : laterCall(wild);
     }
 
     private static int done(Runnable call) {
