@@ -21,14 +21,13 @@ public final class FaceTest {
         "NONE=-1", "RELEASED=1", "TAKEN=2", "GIVEN=3", "FINISHED=4", "RUNS=5",
     };
 
-    public static void main(String[] args) throws IllegalAccessException {
+    public static void main(String[] args) {
+        Check.runAll(FaceTest.class);
+    }
+
+    private static void classItself() {
         int modifiers = CeilingDispatch.class.getModifiers();
         Check.isTrue("public and final", Modifier.isPublic(modifiers) && Modifier.isFinal(modifiers));
-        methods();
-        constants();
-        constructors();
-        classesInside();
-        Check.end();
     }
 
     private static void methods() {

@@ -15,13 +15,13 @@ public final class ModelTest {
     }
 
     public static void main(String[] args) {
+        Check.runAll(ModelTest.class);
+    }
+
+    private static void runsAgreeWithTheModel() {
         for (int run = 1; run <= RUNS; run++) {
-            ModelTest test = new ModelTest(run);
-            if (!test.agrees(run)) {
-                Check.isTrue("run " + run + " agrees with the model", false);
-            }
+            Check.isTrue("run " + run + " agrees with the model", new ModelTest(run).agrees(run));
         }
-        Check.end();
     }
 
     private boolean agrees(int run) {
@@ -130,19 +130,11 @@ public final class ModelTest {
     }
 
     private static boolean same(IntSupplier program, IntSupplier model) {
-        String got = answer(program);
-        String due = answer(model);
+        String got = Check.answer(program);
+        String due = Check.answer(model);
         if (!got.equals(due)) {
             System.out.println("answered " + got + ", due is " + due);
         }
         return got.equals(due);
-    }
-
-    private static String answer(IntSupplier call) {
-        try {
-            return Integer.toString(call.getAsInt());
-        } catch (RuntimeException e) {
-            return e.getClass().getSimpleName();
-        }
     }
 }
