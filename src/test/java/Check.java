@@ -19,7 +19,7 @@ final class Check {
     private Check() {
     }
 
-    // Each static method without parameters is a test: none can be written and then forgotten in a list.
+    // Each static method without parameters and answer is a test: none can be written and then forgotten in a list.
     static void runAll(Class<?> tests) {
         Method[] methods = tests.getDeclaredMethods();
         Arrays.sort(methods, Comparator.comparing(Method::getName));
